@@ -207,7 +207,6 @@ public final class ScanningHouse {
 
     /** Promise 12: mends a vault for a book; returns how many copies came. */
     public int mend(int vault, int book) throws IndexOutOfBoundsException, IllegalStateException {
-        needVault(vault);
         Book of = bookAt(book);
         needStandingVault(vault);
         int came = 0;
