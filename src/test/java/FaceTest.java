@@ -7,6 +7,8 @@ import java.nio.file.Path;
 import java.util.ArrayList;
 import java.util.List;
 import java.util.TreeSet;
+import java.util.regex.Matcher;
+import java.util.regex.Pattern;
 
 /** Compares the face of the class with the code block of the document. */
 public final class FaceTest {
@@ -41,6 +43,7 @@ public final class FaceTest {
         check(field.getName().equals("NONE"), "not of the face: " + field);
       }
     }
+    checkHeads(Files.readString(Path.of("../shared/DOC.md")), source);
     check(face.size() == 31, "the document's face has " + face.size() + " lines");
     check(members == face.size(), "the class has " + members + " members that are not private");
     check(ScanningHouse.NONE == -1, "NONE is " + ScanningHouse.NONE);
@@ -57,6 +60,25 @@ public final class FaceTest {
       }
     }
     return face;
+  }
+
+  /** The document tells what the interface says ahead of which calls; a comment of the class says it there. */
+  private static void checkHeads(String document, String source) {
+    Matcher told = Pattern.compile("Ahead of the calls (.*) the interface says: (.*)\\.").matcher(document);
+    int heads = 0;
+    while (told.find()) {
+      heads++;
+      String head = "// " + told.group(2);
+      check(source.contains(head), "the class lacks: " + head);
+      String below = source.substring(source.indexOf(head) + 1).split("// ----")[0];
+      List<String> calls = new ArrayList<>();
+      Matcher call = Pattern.compile("public \\w+ (\\w+)\\(").matcher(below);
+      while (call.find()) {
+        calls.add("`" + call.group(1) + "`");
+      }
+      check(String.join(", ", calls).equals(told.group(1)), "below " + head + ": " + calls);
+    }
+    check(heads == 5, "the document tells of " + heads + " heads");
   }
 
   private static void check(boolean is, String text) {
